@@ -697,6 +697,7 @@ public final class BlindColours {
 
         private final int[] sort = new int[MOST_BYTES + 1];
         private final int[] value = new int[MOST_BYTES + 1];
+        // Where it begins; of what is BAD where it can't go on.
         private final int[] place = new int[MOST_BYTES + 1];
         private int count = 0;
         private int behind = 0;
@@ -731,6 +732,14 @@ public final class BlindColours {
             return at >= 0 && at < count && at < place.length ? place[at] : 0;
         }
 
+        /** Where it begins, of what is BAD too. */
+        int beginHere() {
+            if (at < 0 || at >= count || at >= sort.length) {
+                return 0;
+            }
+            return sort[at] == BAD ? value[at] : place[at];
+        }
+
         boolean isHere(int what, int worth) {
             return at >= 0 && at < count && at < sort.length && sort[at] == what && value[at] == worth;
         }
@@ -755,7 +764,7 @@ public final class BlindColours {
                 return cutNumber(tape);
             }
             if (SIGNS.indexOf((char) first) < 0) {
-                return add(BAD, 0, behind);
+                return add(BAD, behind, behind);
             }
             behind++;
             return add(SIGN, first, behind - 1);
@@ -769,7 +778,7 @@ public final class BlindColours {
                 behind++;
             }
             if (isLetter(tape.byteAt(behind))) {
-                return add(BAD, 0, behind);
+                return add(BAD, from, behind);
             }
             int own = Reader.ownNumber(packed);
             return own == NONE ? add(NAME, packed, from) : add(OWN_WORD, own, from);
@@ -782,7 +791,7 @@ public final class BlindColours {
                 number = number * 10 + (tape.byteAt(behind) - '0');
                 behind++;
             }
-            return isDigit(tape.byteAt(behind)) ? add(BAD, 0, behind) : add(NUMBER, number, from);
+            return isDigit(tape.byteAt(behind)) ? add(BAD, from, behind) : add(NUMBER, number, from);
         }
 
         private int add(int what, int worth, int where) {
@@ -877,7 +886,7 @@ public final class BlindColours {
         private void fail(int kind) {
             if (fault == 0) {
                 fault = kind;
-                place = tokens.placeHere();
+                place = kind == TOO_MANY ? tokens.beginHere() : tokens.placeHere();
             }
             tokens.stop();
         }
@@ -924,11 +933,16 @@ public final class BlindColours {
 
         private void readStatement() {
             int kind = ownHere();
+            // The 61st is one too many whatever it is, so it is not looked at.
+            if (statements == MOST_STATEMENTS) {
+                fail(TOO_MANY);
+                return;
+            }
             if (kind < 0 || kind > GIVES) {
                 fail(UNEXPECTED);
                 return;
             }
-            if (statements == MOST_STATEMENTS || isFull(kind)) {
+            if (isFull(kind)) {
                 fail(TOO_MANY);
                 return;
             }

@@ -107,6 +107,9 @@ public final class Oracle {
             if (token.isEmpty()) {
                 return;
             }
+            if (before.equals(";") && out.statements == 59) {
+                throw new Fault(6, place);
+            }
             if (token.matches("[a-z0-9]+")) {
                 if (before.matches("[a-z0-9]+") && matcher.group(1).isEmpty()) {
                     throw new Fault(1, place);
@@ -151,7 +154,7 @@ public final class Oracle {
         private void statement() {
             String word = token;
             int from = place;
-            boolean tooMany = out.statements >= 60;
+            boolean tooMany = false;
             switch (word) {
                 case "blind": tooMany |= out.blinds.size() == 6; break;
                 case "colour": tooMany |= out.colours.size() == 6; break;

@@ -70,14 +70,15 @@ final class Texts {
         List<String> things = kinds.get(2);
         for (int a = 0; a < things.size(); a++) {
             for (int b = 0; b < a; b++) {
-                if (below(5) < 2) {
+                if (below(5) < 3) {
                     out.add(below(2) == 0 ? "near " + things.get(a) + " " + things.get(b)
                             : "near " + things.get(b) + " " + things.get(a));
                 }
             }
         }
-        for (int i = 0; i < 7 && !things.isEmpty() && !kinds.get(1).isEmpty(); i++) {
-            if (below(3) == 0) {
+        int dressed = below(12);
+        for (int i = 0; i < dressed && !things.isEmpty() && !kinds.get(1).isEmpty(); i++) {
+            if (below(4) != 0) {
                 out.add("wears " + things.get(below(things.size())) + " "
                         + kinds.get(1).get(below(kinds.get(1).size())));
             }
@@ -96,19 +97,60 @@ final class Texts {
             rest.add("row " + below(101));
         }
         if (below(3) != 0) {
-            rest.add("scores " + (below(2) == 0 ? "match " + pick("+", "-") + " " : "") + sum(depth, "scores"));
+            rest.add("scores " + (below(3) == 0 ? "match " + pick("+", "-") + " " + sum(depth, "scores") : usual()));
         }
         if (below(2) == 0) {
-            rest.add("counts " + test(depth, "counts"));
+            rest.add("counts " + (below(8) == 0 ? deepTest(5 + below(4)) : test(depth, "counts")));
         }
         if (below(2) == 0) {
-            rest.add("gives " + sum(depth, "gives"));
+            rest.add("gives " + (below(8) == 0 ? deepSum(5 + below(4)) : pick("7 + ", "") + sum(depth, "gives")));
         }
         for (String s : rest) {
             out.add(below(out.size() + 1), s);
         }
         for (int i = below(30) == 0 ? 61 : 0; i > 0 && out.size() < 58 + i % 5; i--) {
             out.add(below(out.size() + 1), pick("row 5", "purse 7", "row 100", "purse 999"));
+        }
+    }
+
+    /** Scores by which much hangs on who is heard ahead of whom. */
+    private String usual() {
+        StringBuilder out = new StringBuilder(pick("match", "match", "match * 2", "match / 3", "match % 50"));
+        for (int i = 1 + below(3); i > 0; i--) {
+            out.append(' ').append(pick("+", "-")).append(' ').append(pick("worn * ", "heard * ", "heard * ", "mood * ",
+                    "cost / ", "year % ", "if (late = 1, heard, worn) * ", "max (heard, worn) * ")).append(1 + below(20));
+        }
+        return out.toString();
+    }
+
+    /** As many as that are open at once in it. */
+    private String deepSum(int open) {
+        if (open == 0) {
+            return pick("1", "year", "year + 2 * 3");
+        }
+        switch (below(4)) {
+            case 0:
+                return "min (2, " + deepSum(open - 1) + ")";
+            case 1:
+                return "if (" + deepTest(open - 1) + ", 1, " + deepSum(below(open)) + ")";
+            case 2:
+                return "max (" + deepSum(below(open)) + " * 5, " + deepSum(open - 1) + ") + 1";
+            default:
+                return pick("", "3 - ") + "(" + deepSum(open - 1) + ")";
+        }
+    }
+
+    private String deepTest(int open) {
+        if (open == 0) {
+            return pick("all", "year > 1");
+        }
+        switch (below(3)) {
+            case 0:
+                return pick("", "all and ") + "not " + deepTest(open - 1);
+            case 1:
+                return pick("", "all or ") + "[" + deepTest(open - 1) + "]";
+            default:
+                return deepSum(open) + " < 2";
         }
     }
 
@@ -184,8 +226,8 @@ final class Texts {
 
     /** A text that mostly has a FAULT. */
     String faulty() {
-        StringBuilder out = new StringBuilder(land());
-        for (int i = 1 + below(3); i > 0; i--) {
+        StringBuilder out = new StringBuilder(below(3) == 0 ? doubled() : land());
+        for (int i = below(2) + (below(2) == 0 ? below(3) : 0) + below(3); i > 0; i--) {
             int at = below(out.length() + 1);
             int to = Math.min(out.length(), at + 1 + below(below(3) == 0 ? 30 : 2));
             switch (below(8)) {
@@ -216,6 +258,23 @@ final class Texts {
         return out.toString();
     }
 
+    /** A STATEMENT stands in it a second time, or one too many does. */
+    private String doubled() {
+        for (;;) {
+            List<String> of = statements();
+            for (int i = 1 + below(4); i > 0 && !of.isEmpty(); i--) {
+                int at = below(of.size());
+                String more = below(2) == 0 ? of.get(at) : pick("blind", "colour", "thing") + " "
+                        + freshName(new ArrayList<>()) + nature(false) + (below(3) == 0 ? " cost 5" : "");
+                of.add(below(3) == 0 ? below(of.size() + 1) : at + below(of.size() - at + 1), more);
+            }
+            String out = String.join(";", of) + ";";
+            if (out.length() <= 1600) {
+                return out;
+            }
+        }
+    }
+
     /** One word, number or sign becomes another one. */
     private void exchangeWord(StringBuilder out) {
         List<int[]> places = new ArrayList<>();
@@ -227,7 +286,10 @@ final class Texts {
         }
         if (!places.isEmpty()) {
             int[] p = places.get(below(places.size()));
-            out.replace(p[0], p[1], below(2) == 0 ? pick(WORDS) : words.get(below(words.size())));
+            String word = words.get(below(words.size()));
+            boolean number = Character.isDigit(out.charAt(p[0]));
+            out.replace(p[0], p[1], number && below(3) != 0 ? "" + below(pick("a", "bb").length() * 600)
+                    : below(2) == 0 ? pick(WORDS) : word);
         }
     }
 }
