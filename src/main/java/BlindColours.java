@@ -1410,7 +1410,6 @@ public final class BlindColours {
             thing = forThing;
             Arrays.fill(known, UNKNOWN);
             Arrays.fill(votes, 0);
-            Arrays.fill(said, NONE);
             counting = 0;
             for (int blind = 0; blind < land.count[Land.BLIND]; blind++) {
                 putPerson(blind);

@@ -239,6 +239,11 @@ public final class PromisesTest {
         faultAt("counts not if(not all and [not not min(max(1,@(2)),3)<1],1,2)>1;", 5);
         fault("counts not if(not all and [not min(max(1,2),3)<1],1,2)>1;", 0, NONE);
         fault("counts not 1<2 and [[[[[[[all]]]]]]];", 0, NONE);
+        BlindColours x = new BlindColours();
+        for (String s : new String[] {"gives ((((((((", "gives (((1;", "counts not not [x", "gives ((((((((("}) {
+            due(5, s, tell(x, s), NONE);
+            due(5, "what was open ahead of a fault is no more", tell(x, "gives (((((((1)))))));"), 1);
+        }
         faultAt("counts not not not 1<((((1)))) and not not 1<(((((@(((1", 5);
     }
 
@@ -992,6 +997,15 @@ public final class PromisesTest {
         due(33, "again", x.image(), 13);
         due(34, "another purse", x.octet(2), 0);
         due(34, "another purse", x.octet(3), 1);
+        for (int year : new int[] {0, 1, 254, 255, 256, 257, 511, 512, 767, 768, 999}) {
+            on(x, year / 256, year % 256, year / 256, year % 256, 0, 1, 2, 0, 0, 0, 255, 255);
+            due(33, "year " + year, x.has(3), year);
+            due(33, "purse " + year, x.has(4), year);
+            x.image();
+            for (int k = 0; k < 4; k++) {
+                due(34, "year and purse " + year, x.octet(k), k % 2 == 0 ? year / 256 : year % 256);
+            }
+        }
         BlindColours none = new BlindColours();
         due(33, "no land", none.image(), 5);
         due(34, "its last byte", none.octet(4), 55);
