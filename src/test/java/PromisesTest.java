@@ -1,76 +1,5 @@
 /** Each promise by itself, with answers worked out by hand from the document. */
-public final class PromisesTest {
-    private static final int NONE = BlindColours.NONE;
-    private static final long NOTHING = BlindColours.NOTHING;
-
-    // One of the BLIND, who wants g for t and r for u; 9 comes in each YEAR.
-    private static final String SMALL = "blind a warm 1 loud 0 deep 0; colour r warm 0 loud 0 deep 0 cost 5;"
-            + "colour g warm 9 loud 0 deep 0 cost 3; thing t warm 9 loud 0 deep 0; thing u warm 0 loud 0 deep 0;";
-
-    // x, y say what is heard most, z says g whatever he hears; of none heard x says r, y says b.
-    private static final String TALK = "blind x warm 2 loud 0 deep 0; blind y warm 0 loud 2 deep 0;"
-            + "blind z warm 0 loud 0 deep 9; colour r warm 9 loud 0 deep 0 cost 1; colour b warm 0 loud 9 deep 0 cost 1;"
-            + "colour g warm 0 loud 0 deep 9 cost 1; thing t warm 9 loud 9 deep 9; scores match + heard * 50;";
-
-    private static int wrong = 0;
-    private static int checks = 0;
-
-    private static void due(int promise, String what, long got, long want) {
-        checks++;
-        if (got != want) {
-            wrong++;
-            System.out.println("promise " + promise + ": " + what + " answered " + got + ", due is " + want);
-        }
-    }
-
-    private static void due(int promise, String what, boolean got, boolean want) {
-        due(promise, what, got ? 1 : 0, want ? 1 : 0);
-    }
-
-    private static void write(BlindColours x, int... bytes) {
-        for (int i = 0; i < bytes.length; i += 20) {
-            int[] five = new int[5];
-            for (int k = 0; k < 20; k++) {
-                five[k / 4] = five[k / 4] << 8 | (i + k < bytes.length ? bytes[i + k] : 77);
-            }
-            x.feed(five[0], five[1], five[2], five[3], five[4]);
-        }
-        x.end(bytes.length);
-    }
-
-    private static void write(BlindColours x, String text) {
-        write(x, text.chars().toArray());
-    }
-
-    private static int tell(BlindColours x, String text) {
-        write(x, text);
-        return x.land();
-    }
-
-    private static BlindColours of(String text) {
-        BlindColours x = new BlindColours();
-        if (tell(x, text) < 0) {
-            wrong++;
-            System.out.println("no land: " + text + ": fault " + x.fault(0) + " at " + x.fault(1));
-        }
-        return x;
-    }
-
-    private static boolean on(BlindColours x, int... bytes) {
-        int[] all = java.util.Arrays.copyOf(bytes, bytes.length + 1);
-        int c = 229;
-        for (int b : bytes) {
-            c = (5 * c + b) % 251;
-        }
-        all[bytes.length] = c;
-        write(x, all);
-        return x.on();
-    }
-
-    private static int meet(BlindColours x, int... rows) {
-        write(x, rows);
-        return x.meet();
-    }
+public final class PromisesTest extends Checks {
 
     private static void p1() {
         BlindColours x = new BlindColours();
@@ -1116,9 +1045,6 @@ public final class PromisesTest {
         p33and34();
         p35();
         p36();
-        System.out.println(checks + " answers looked at, " + wrong + " wrong");
-        if (wrong != 0) {
-            System.exit(1);
-        }
+        finish();
     }
 }
