@@ -217,14 +217,30 @@ public final class ActEdgesTest extends Checks {
         refused(27, "none already", () -> of(SMALL), x -> x.paint(1, NONE) ? 1 : 0, 0, 3, false);
     }
 
+    private static void p27to30inYear999() {
+        BlindColours x = at(SMALL + "blind b warm 0 loud 0 deep 0;", 999, 5);
+        due(27, "by hand", x.paint(0, 1), true);
+        due(28, "the ORDER", x.swap(0, 1), true);
+        due(29, "the purse", x.fill(6), true);
+        due(30, "the purse", x.undo(), true);
+        due(30, "the ORDER", x.undo(), true);
+        due(30, "by hand", x.undo(), true);
+        due(30, "no more", x.undo(), false);
+        due(6, "year 999 still", x.has(3), 999);
+        due(6, "the purse", x.has(4), 5);
+        due(33, "an image", x.image(), 11);
+        due(21, "no next YEAR", x.odds(NONE), NONE);
+    }
+
     private static void p27painted() {
         for (int thing = 0; thing < 6; thing++) {
             for (int colour = 0; colour < 6; colour++) {
-                BlindColours x = of(blinds(1) + colours(5) + "colour z warm 0 loud 0 deep 0 cost 99;" + things(6));
+                BlindColours x = of(blinds(1) + colours(5) + "colour z warm 0 loud 0 deep 0 cost 99;" + things(6)
+                        + "purse 100;");
                 due(27, "for nothing, be it dear", x.paint(thing, colour), true);
                 due(27, "it wears it", x.thing(thing, 3), colour);
                 due(27, "the others none", x.has(5), 5);
-                due(27, "the purse", x.has(4), 0);
+                due(27, "the purse", x.has(4), 100);
                 due(27, "not KEPT", x.has(7), 0);
                 due(27, "the MOOD", x.blind(0, 4), 5);
                 due(27, "the year", x.has(3), 0);
@@ -533,6 +549,22 @@ public final class ActEdgesTest extends Checks {
         due(32, "none", x.kept(0, 0), NONE);
     }
 
+    private static void p32paintedAnew() {
+        BlindColours x = of(EACH_YEAR);
+        x.years(38);
+        x.years(5);
+        x.undo();
+        x.fill(1);
+        x.years(4);
+        due(32, "forty", x.has(7), 40);
+        due(32, "the oldest", x.kept(0, 0), 2);
+        due(32, "the latest", x.kept(39, 0), 41);
+        for (int k = 0; k < 40; k++) {
+            due(32, "YEAR by YEAR", x.kept(k, 0), k + 2);
+            due(32, "COLOUR by COLOUR", x.kept(k, 2), k % 2);
+        }
+    }
+
     // ---- promises 33 and 34
 
     private static void p33howMany() {
@@ -564,6 +596,26 @@ public final class ActEdgesTest extends Checks {
         int[] nothing = {0, 0, 0, 0, 55};
         for (int k = 0; k < 5; k++) {
             due(34, "of nothing, byte " + k, none.octet(k), nothing[k]);
+        }
+    }
+
+    /** "of each place one of the BLIND", not of each of the BLIND his place. */
+    private static void p33theOrder() {
+        BlindColours x = of(blinds(3));
+        x.swap(0, 1);
+        x.swap(1, 2);
+        due(33, "bytes", x.image(), 11);
+        int[] want = {1, 2, 0};
+        for (int place = 0; place < 3; place++) {
+            due(34, "who is in place " + place, x.octet(4 + place), want[place]);
+            due(8, "his place", x.blind(want[place], 5), place);
+        }
+        due(35, "on", on(x, 0, 0, 0, 0, 2, 0, 1, 5, 5, 5), true);
+        want = new int[] {2, 0, 1};
+        x.image();
+        for (int place = 0; place < 3; place++) {
+            due(34, "who is in place " + place, x.octet(4 + place), want[place]);
+            due(8, "his place", x.blind(want[place], 5), place);
         }
     }
 
@@ -754,7 +806,13 @@ public final class ActEdgesTest extends Checks {
         }
         write(x, " ".repeat(1600));
         x.feed(0, 0, 0, 0, 0);
-        due(36, "feed()", x.status(0), want[0] + 1);
+        want[0]++;
+        due(36, "feed()", x.status(0), want[0]);
+        due(36, "another LAND", x.land(), 0);
+        due(36, "AN IMAGE", on(x, 0, 0, 0, 0), true);
+        for (int kind = 0; kind < 6; kind++) {
+            due(36, "status(" + kind + ") behind another LAND, AN IMAGE", x.status(kind), want[kind]);
+        }
     }
 
     private static void p36none() {
@@ -794,6 +852,7 @@ public final class ActEdgesTest extends Checks {
         p26onlyInThatYear();
         p26withoutThem();
         p27refused();
+        p27to30inYear999();
         p27painted();
         p28refused();
         p28exchanged();
@@ -810,8 +869,10 @@ public final class ActEdgesTest extends Checks {
         p32noWhat();
         p32whatIsKept();
         p32undoneBehindForty();
+        p32paintedAnew();
         p33howMany();
         p33eachByte();
+        p33theOrder();
         p33yearAndPurse();
         p34theLatest();
         p33changesNothing();

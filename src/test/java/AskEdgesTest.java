@@ -103,6 +103,19 @@ public final class AskEdgesTest extends Checks {
         due(7, "behind it", x.letter(1, 1, 2), 0);
     }
 
+    private static void p7shortAndLong() {
+        for (char c : new char[] {'a', 'b', 'y', 'z'}) {
+            for (int length = 1; length <= 6; length++) {
+                BlindColours x = of("thing " + String.valueOf(c).repeat(length) + " warm 1 loud 1 deep 1;blind m" + "q".repeat(length - 1)
+                        + " warm 1 loud 1 deep 1;");
+                for (int k = 0; k < 6; k++) {
+                    due(7, length + " times " + c, x.letter(2, 0, k), k < length ? c - 'a' + 1 : 0);
+                    due(7, "another of " + length, x.letter(0, 0, k), k == 0 ? 13 : k < length ? 17 : 0);
+                }
+            }
+        }
+    }
+
     private static void p7noneSuch() {
         int[] many = {3, 2, 3};
         for (int kind = 0; kind < 3; kind++) {
@@ -297,6 +310,25 @@ public final class AskEdgesTest extends Checks {
         }
     }
 
+    /** Each form of a FACT that holds, and that does not, alone, behind not, and by and, or with each other one. */
+    private static void p11facts() {
+        String[] facts = {"1<2", "2>1", "1=1", "all", "[1<2]", "[all]", "not 1>2", "not 2<1", "not 1=2", "not not all", "9999>1", "5<9999",
+            "1>2", "1<1", "1>1", "1=2", "2<1", "not all", "[1>2]", "not 1<2", "not 2>1", "not 1=1", "not [all]", "[not all]"};
+        int holding = 12;
+        for (int i = 0; i < facts.length; i++) {
+            boolean first = i < holding;
+            due(11, facts[i], worked("if(" + facts[i] + ",1,0)"), first ? 1 : 0);
+            due(11, "not " + facts[i], worked("if(not " + facts[i] + ",1,0)"), first ? 0 : 1);
+            for (int k = 0; k < facts.length; k++) {
+                boolean second = k < holding;
+                String both = facts[i] + " and " + facts[k];
+                String one = facts[i] + " or " + facts[k];
+                due(11, both, worked("if(" + both + ",1,0)"), first && second ? 1 : 0);
+                due(11, one, worked("if(" + one + ",1,0)"), first || second ? 1 : 0);
+            }
+        }
+    }
+
     private static void p11whatCanBeAsked() {
         String[] parts = {"year", "mood", "late", "match", "worn", "heard", "cost"};
         long[] want = {17, 5, 1, 7, 0, 0, 13};
@@ -355,6 +387,13 @@ public final class AskEdgesTest extends Checks {
         due(12, "y says b by himself", x.word(1, 0), 1);
         due(13, "hearing x he says r", x.choice(0, 1), 3);
         due(12, "by himself still", x.word(1, 0), 1);
+        for (int many = 1; many <= 3; many++) {
+            BlindColours y = of(blinds(many) + colours(1) + "colour h warm 0 loud 0 deep 0 cost 9;" + things(1)
+                    + "scores if(heard=0,cost,0-cost);");
+            due(12, "of none heard the dear one", y.word(many - 1, 0), 1);
+            due(13, "the first says h, then g, then g or h by what is less", y.choice(0, 1), many == 3 ? 2 : 1);
+            due(12, "of none heard still", y.word(many - 1, 0), 1);
+        }
     }
 
     private static void p13choices() {
@@ -439,6 +478,22 @@ public final class AskEdgesTest extends Checks {
         x.years(4);
         for (int n = 0; n <= 9; n++) {
             due(16, "n from now on", x.purse(n), x.has(4) + 9 * n);
+        }
+    }
+
+    /** "without DRAWS". */
+    private static void p14to16withoutDraws() {
+        for (int seed : new int[] {0, 1, 50, 99, GREATEST}) {
+            BlindColours x = of(SMALL + "row 100;");
+            x.seed(seed);
+            due(14, "t, no quarrel", x.later(0, 1), 1);
+            due(14, "u, no quarrel", x.later(1, 2), 0);
+            due(15, "chosen each time", x.mood(0, 3), 8);
+            due(16, "paid", x.purse(2), 10);
+            meet(x, 1, 0, 1, 2, 1, 0);
+            due(23, "all but 0, who says r", x.tastes(0), 1022);
+            due(24, "nine are left", x.tells(0, 2), 9);
+            due(14, "no DRAW", x.has(10), seed);
         }
     }
 
@@ -570,6 +625,31 @@ public final class AskEdgesTest extends Checks {
         due(18, "whatever the ORDER of now is", x.orders(0, 0), 600);
     }
 
+    /** "the CHOICE for it is that, now": by the YEAR, the MOODS and what is worn now. */
+    private static void p17to21now() {
+        BlindColours x = of(blinds(2) + colours(2) + things(1) + "scores if(year<1,0-cost,worn);" + "counts year<2;");
+        due(18, "in year 0: g", x.orders(0, 0), 2);
+        due(21, "in year 0: g", x.odds(0), 200);
+        due(19, "in year 0", x.power(0, 0), 1);
+        x.years(1);
+        x.paint(0, 1);
+        due(18, "in year 1: what is worn, h", x.orders(0, 1), 2);
+        due(17, "in year 1: h", x.order(0, 1, 1), 1);
+        due(17, "in year 1: not g", x.order(0, 0, 1), NONE);
+        due(21, "in year 1: h", x.odds(1), 200);
+        due(19, "in year 1", x.power(0, 0), 1);
+        x.years(1);
+        due(18, "in year 2 none COUNTS", x.orders(0, 1), 0);
+        due(17, "in year 2 none COUNTS", x.order(0, 1, 1), NONE);
+        due(21, "in year 2 none COUNTS", x.odds(1), 0);
+        due(19, "in year 2 none COUNTS", x.power(0, 0), 0);
+        BlindColours moody = of(blinds(1) + colours(1) + things(1) + "counts mood<6;");
+        due(18, "his MOOD is 5", moody.orders(0, 0), 1);
+        moody.years(1);
+        due(18, "his MOOD is 6", moody.orders(0, 0), 0);
+        due(13, "his MOOD is 6", moody.choice(0, 0), NONE);
+    }
+
     private static void p17noneSuch() {
         for (int bad : new int[] {3, 4, 6, -1, -2, LEAST, GREATEST}) {
             asks(17, "no THING " + bad, Checks::busy, x -> x.order(bad, 0, 0), NONE);
@@ -692,6 +772,11 @@ public final class AskEdgesTest extends Checks {
         // Without x or z: b; without y: x says r, z g (81 against 50): of r and g the first.
         due(21, "in the ORDER of now", y.odds(1), 200);
         due(21, "in the ORDER of now", y.odds(0), 100);
+        // Of all, y first: b.
+        BlindColours z = of(TALK + "row 30;");
+        z.swap(0, 1);
+        due(21, "in the ORDER of now, no quarrel in 70 rows of each", z.odds(1), 210 + 60);
+        due(21, "in the ORDER of now, without y", z.odds(0), 30);
     }
 
     // ---- promise 22
@@ -811,6 +896,51 @@ public final class AskEdgesTest extends Checks {
         due(23, "none of three is", x.tastes(0), 1023);
     }
 
+    private static void p23eachRow() {
+        int[][] rows = {{1, 0, 0, 0, 0, 255}, {0, 0, 255, 1, 0, 0}, {1, 0, 0, 0, 0, 255, 1, 0, 0}, {0, 0, 255, 0, 0, 255, 1, 0, 0, 2, 0, 0}};
+        for (int[] r : rows) {
+            BlindColours x = of(becomes(4) + "row 100;");
+            meet(x, r);
+            due(23, "all rows hold from 4 on, none without DRAWS", x.tastes(0), 1023 - 15);
+        }
+        int[][] never = {{1, 0, 0, 0, 0, 0}, {1, 0, 0, 1, 0, 1}, {1, 0, 0, 1, 0, 255}, {1, 0, 255, 1, 0, 0}, {1, 0, 0, 2, 0, 1}, {1, 0, 0, 0, 0, 255, 2, 0, 255}};
+        for (int[] r : never) {
+            BlindColours x = of(becomes(4));
+            meet(x, r);
+            due(23, "one row does not hold", x.tastes(0), 0);
+        }
+        int[] sixteen = new int[48];
+        for (int i = 0; i < 16; i++) {
+            sixteen[3 * i + 2] = 255;
+        }
+        sixteen[45] = 1;
+        sixteen[47] = 0;
+        BlindColours x = of(becomes(4));
+        meet(x, sixteen);
+        due(23, "the sixteenth row", x.tastes(0), 1023 - 15);
+    }
+
+    /** Of the others each keeps his own TASTES, and so does he behind it. */
+    private static void p23hisAlone() {
+        // a says g, b by his own TASTE r (for warm 0, loud 4); of like ones the first: g. Then a alone tells nothing, nor does b.
+        String two = "blind a warm 9 loud 4 deep 0;blind b warm 0 loud 4 deep 0;" + becomes(4).substring(becomes(4).indexOf("colour"));
+        BlindColours x = of(two);
+        due(23, "none MET", x.tastes(0), 1023);
+        meet(x, 1, 0, 1);
+        due(23, "r, if a says it as well: below 4", x.tastes(0), 15);
+        due(23, "r is never said by both, if a says g", x.tastes(1), 0);
+        due(8, "his own TASTE", x.blind(0, 0), 9);
+        due(12, "his own WORD", x.word(0, 0), 0);
+        due(11, "his own SCORE", x.score(0, 0, 0), 81);
+        due(13, "the CHOICE", x.choice(0, 0), 0);
+        due(14, "ahead", x.later(0, 1), 0);
+        x.tells(0, 0);
+        due(11, "his own SCORE", x.score(0, 0, 0), 81);
+        due(14, "ahead", x.later(0, 1), 0);
+        due(25, "a YEAR", x.years(1), 1);
+        due(10, "g", x.thing(0, 3), 0);
+    }
+
     private static void p23theLatestOfThisLand() {
         BlindColours x = of(becomes(3));
         meet(x, 1, 0, 0);
@@ -899,12 +1029,129 @@ public final class AskEdgesTest extends Checks {
         due(24, "the one that comes", at(late.replace("@", "998"), 998, 0).tells(0, 2), 5);
     }
 
-    /** "by what it wears, whatever it is, or nothing": as many as three kinds of looks. */
+    /** r below or at 3, else g, which is the last of six COLOURS; the others nobody says. */
+    private static final String SIX = "blind a warm 0 loud 3 deep 0;colour r warm 0 loud 0 deep 0 cost 0;colour b warm 0 loud 9 deep 0 cost 0;"
+            + "colour c warm 0 loud 9 deep 0 cost 0;colour d warm 0 loud 9 deep 0 cost 0;colour e warm 0 loud 9 deep 0 cost 0;"
+            + "colour g warm 9 loud 9 deep 0 cost 0;";
+
+    private static void p24sixOfEach() {
+        for (int many = 1; many <= 6; many++) {
+            StringBuilder text = new StringBuilder(SIX);
+            for (int i = 0; i < many; i++) {
+                text.append("thing ").append((char) ('t' + i)).append(" warm 9 loud 0 deep 0;");
+            }
+            BlindColours x = of(text.toString());
+            int[] want = {1, 0, 6};
+            for (int what = 0; what < 3; what++) {
+                due(24, "six COLOURS, " + many + " THINGS, what " + what, x.tells(0, what), want[what]);
+            }
+            meet(x, many, many - 1, 5);
+            due(23, "the last THING wears the last COLOUR", x.tastes(0), 1023 - 15);
+            due(24, "nothing more to tell", x.tells(0, 2), 6);
+            meet(x, many, many - 1, 0);
+            due(23, "the last THING wears the first COLOUR", x.tastes(0), 15);
+            due(24, "nothing more to tell", x.tells(0, 2), 4);
+        }
+        // The last THING alone tells, in the last YEAR of 30: its number is 29 modulo 6 = 5.
+        BlindColours last = of(SIX + "thing m warm 0 loud 0 deep 0;thing n warm 0 loud 0 deep 0;"
+                + "thing o warm 0 loud 0 deep 0;thing p warm 0 loud 0 deep 0;thing q warm 0 loud 0 deep 0;thing s warm 9 loud 0 deep 0;"
+                + "scores if(year<29,0-cost,match);");
+        int[] want = {30, 5, 6};
+        for (int what = 0; what < 3; what++) {
+            due(24, "the last YEAR, the last THING, what " + what, last.tells(0, what), want[what]);
+        }
+    }
+
+    /** What was told of an object ahead does not stay, be it more or less. */
+    private static void p24again() {
+        BlindColours x = of(becomes(5));
+        due(24, "five by five", x.tells(0, 2), 5);
+        tell(x, blinds(1) + colours(1) + things(2));
+        due(24, "all alike", x.tells(0, 2), 10);
+        due(24, "the first YEAR", x.tells(0, 0), 1);
+        due(24, "the first THING", x.tells(0, 1), 0);
+        tell(x, becomes(8).replace("thing t", "thing s warm 0 loud 0 deep 0;thing t"));
+        due(24, "eight and two", x.tells(0, 2), 8);
+        due(24, "in the second YEAR", x.tells(0, 0), 2);
+        due(24, "t", x.tells(0, 1), 1);
+        for (int what = 0; what < 3; what++) {
+            tell(x, blinds(1) + colours(1));
+            due(24, "without THINGS", x.tells(0, what), NONE);
+            tell(x, becomes(5));
+            on(x, 3, 231, 0, 0, 0, 5, 255);
+            due(24, "no YEAR comes", x.tells(0, what), NONE);
+            on(x, 3, 230, 0, 0, 0, 5, 255);
+            due(24, "one YEAR comes", x.tells(0, what), new int[] {1, 0, 5}[what]);
+            meet(x, 0, 0, 1);
+            due(24, "none left", x.tells(0, what), NONE);
+        }
+    }
+
+    /** "by what it wears, whatever it is, or nothing". */
     private static void p24orNothing() {
         // g (cost 0) from 5 on; below r, which is too dear in year 0.
         BlindColours x = of(becomes(5).replace("colour r warm 0 loud 0 deep 0 cost 0", "colour r warm 0 loud 0 deep 0 cost 10"));
         due(24, "nothing by five", x.tells(0, 0), 1);
         due(24, "nothing by five", x.tells(0, 2), 5);
+    }
+
+    // ---- what there is none of
+
+    /** All that can be asked of the BLIND, a COLOUR, a THING, where the LAND has none of them. */
+    private static void noneOfAKind() {
+        for (int kind = 0; kind <= 3; kind++) {
+            String text = (kind == 0 || kind == 3 ? "" : blinds(1)) + (kind == 1 || kind == 3 ? "" : colours(1))
+                    + (kind == 2 || kind == 3 ? "" : things(1));
+            BlindColours x = of(text);
+            boolean blind = x.has(0) > 0;
+            boolean colour = x.has(1) > 0;
+            boolean thing = x.has(2) > 0;
+            String what = text.isEmpty() ? "a LAND of nothing" : text;
+            due(7, what, x.letter(0, 0, 0), blind ? 1 : NONE);
+            due(7, what, x.letter(1, 0, 0), colour ? 7 : NONE);
+            due(7, what, x.letter(2, 0, 0), thing ? 13 : NONE);
+            due(8, what, x.blind(0, 6), blind ? 1 : NONE);
+            due(9, what, x.colour(0, 4), colour ? 0 : NONE);
+            due(10, what, x.thing(0, 4), thing ? 0 : NONE);
+            due(11, what, x.score(0, 0, 0), NOTHING);
+            due(12, what, x.word(0, 0), NONE);
+            due(13, what, x.choice(0, 0), NONE);
+            due(13, what, x.choice(0, 1), NONE);
+            due(14, what, x.later(0, 40), NONE);
+            due(15, what, x.mood(0, 40), blind ? 5 : NONE);
+            due(16, what, x.purse(40), 360);
+            due(17, what, x.order(0, 0, 0), NONE);
+            due(18, what, x.orders(0, 0), colour && thing ? 0 : NONE);
+            due(19, what, x.power(0, 0), blind && thing ? 0 : NONE);
+            due(20, what, x.clear(), 0);
+            due(21, what, x.odds(0), NONE);
+            due(21, what, x.odds(NONE), blind && thing ? 100 : NONE);
+            due(23, what, x.tastes(0), blind ? 1023 : NONE);
+            due(24, what, x.tells(0, 2), blind && thing ? 10 : NONE);
+            due(22, what, meet(x, 0, 0, 255), thing ? 1 : NONE);
+            due(27, what, x.paint(0, 0), colour && thing);
+            due(28, what, x.swap(0, 1), false);
+            due(29, what, x.fill(7), true);
+            due(25, what, x.years(2), 0);
+            due(26, what, x.chance(2), 0);
+            due(32, what, x.kept(0, 0), NONE);
+            due(33, what, x.image(), 5 + (blind ? 2 : 0) + (thing ? 1 : 0));
+            due(30, what, x.undo(), true);
+        }
+    }
+
+    // ---- asking changes nothing
+
+    private static void askingChangesNothing() {
+        int[] promises = {6, 7, 8, 8, 9, 10, 11, 12, 13, 13, 14, 15, 16, 17, 18, 19, 20, 21, 21, 23, 23, 24, 24, 32, 34, 36, 5};
+        Call[] calls = {x -> x.has(4), x -> x.letter(1, 1, 2), x -> x.blind(1, 6), x -> x.blind(2, 5), x -> x.colour(1, 4), x -> x.thing(2, 4),
+            x -> x.score(0, 1, 1), x -> x.word(2, 2), x -> x.choice(1, 0), x -> x.choice(0, 1), x -> x.later(0, 40), x -> x.mood(2, 40),
+            x -> x.purse(40), x -> x.order(1, 1, 2), x -> x.orders(2, 1), x -> x.power(1, 1), BlindColours::clear, x -> x.odds(0),
+            x -> x.odds(NONE), x -> x.tastes(0), x -> x.tastes(2), x -> x.tells(0, 2), x -> x.tells(2, 0), x -> x.kept(3, 2), x -> x.octet(4),
+            x -> x.status(1), x -> x.fault(1)};
+        for (int i = 0; i < calls.length; i++) {
+            asks(promises[i], "asked, " + i, Checks::busy, calls[i], calls[i].of(busy()));
+        }
     }
 
     public static void main(String[] args) {
@@ -915,6 +1162,7 @@ public final class AskEdgesTest extends Checks {
         p6keptAndActs();
         p6metAndSeed();
         p7letters();
+        p7shortAndLong();
         p7noneSuch();
         p8whoIsThere();
         p8moodsFrom0To9();
@@ -926,6 +1174,7 @@ public final class AskEdgesTest extends Checks {
         p11tenToTheSix();
         p11overAndLeft();
         p11fromTheLeft();
+        p11facts();
         p11whatCanBeAsked();
         p11noneSuch();
         p12words();
@@ -935,6 +1184,7 @@ public final class AskEdgesTest extends Checks {
         p13whoseWordCounts();
         p14to16howFar();
         p14to16now();
+        p14to16withoutDraws();
         p14to16asAsked();
         p14to16asTheyCome();
         p16whatComesIn();
@@ -943,6 +1193,7 @@ public final class AskEdgesTest extends Checks {
         p17orders();
         p17theFirstOfThem();
         p17farAmongThem();
+        p17to21now();
         p17noneSuch();
         p19power();
         p20fewest();
@@ -958,11 +1209,17 @@ public final class AskEdgesTest extends Checks {
         p23eachTaste();
         p23yearsAhead();
         p23beyond999();
+        p23eachRow();
+        p23hisAlone();
         p23theLatestOfThisLand();
         p24none();
         p24atTheMost();
         p24yearsThatCome();
+        p24sixOfEach();
+        p24again();
         p24orNothing();
+        noneOfAKind();
+        askingChangesNothing();
         finish();
     }
 }

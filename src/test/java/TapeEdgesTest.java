@@ -216,6 +216,10 @@ public final class TapeEdgesTest extends Checks {
         x = of("blind a warm 0 loud 0 deep 0;counts 1>2" + " or 1>2".repeat(190) + " or all;");
         due(4, "190 times or", x.blind(0, 6), 1);
         faulty(4, "gives 1" + "+0".repeat(796) + "@", 1);
+        faulty(4, "row 5;" + " ".repeat(1589) + "row 5@", 1);
+        faulty(4, "row 5;" + " ".repeat(1593) + "@;", 1);
+        faulty(4, "row 5;" + " ".repeat(1589) + "row @x", 1);
+        faulty(4, "row 5;" + " ".repeat(1587) + "abcdef@g", 1);
     }
 
     private static void p4sevenOpenOnBothSides() {
@@ -254,6 +258,30 @@ public final class TapeEdgesTest extends Checks {
         due(4, "nothing is KEPT", x.kept(0, 0), NONE);
         due(4, "no ACT", x.undo(), false);
         due(4, "a row of 100", x.chance(1), 1);
+    }
+
+    /** Nothing of a text stays for the next ones, be they two, three or four later, nor of one that was refused between them. */
+    private static void p4nothingOfOlderTexts() {
+        String rich = SMALL + "late a;near t u;wears t r;wears u g;purse 70;row 100;scores 3;counts late=0;gives 50;";
+        for (int between = 0; between <= 3; between++) {
+            for (String last : new String[] {"", rich + "x", "late z;"}) {
+                BlindColours x = of(rich);
+                for (int i = 0; i < between; i++) {
+                    due(4, "one between them", tell(x, i == 1 ? "purse 5;" : rich), i == 1 ? 1 : 14);
+                }
+                due(4, "the last but one", tell(x, last), last.isEmpty() ? 0 : NONE);
+                due(4, "the last", tell(x, SMALL), 5);
+                due(4, "not LATE", x.blind(0, 3), 0);
+                due(4, "his WORD COUNTS", x.blind(0, 6), 1);
+                due(4, "not NEAR", x.thing(0, 4), 0);
+                due(4, "not NEAR", x.thing(1, 4), 0);
+                due(4, "they wear none", x.has(5), 2);
+                due(4, "no purse", x.has(4), 0);
+                due(4, "no scores", x.score(0, 0, 1), 9);
+                due(4, "no gives", x.purse(1), 6);
+                due(4, "no row", x.odds(1), 100);
+            }
+        }
     }
 
     private static void p4theSameAgain() {
@@ -325,6 +353,7 @@ public final class TapeEdgesTest extends Checks {
         p4bytes1600();
         p4sevenOpenOnBothSides();
         p4asAtFirst();
+        p4nothingOfOlderTexts();
         p4theSameAgain();
         p4withoutThemIsNone();
         p4refusedAllStays();
