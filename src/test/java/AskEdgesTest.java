@@ -462,7 +462,6 @@ public final class AskEdgesTest extends Checks {
             }
             due(16, "the year stays", x.has(3), end[0]);
         }
-        // Year 40 is t's, year 39 u's: behind 40 years t has been asked for 20 times.
         BlindColours each = of(EACH_YEAR);
         for (int n = 1; n <= 40; n++) {
             due(14, "the COLOURS by turns, " + n, each.later(0, n), (n + 1) % 2);
@@ -807,11 +806,11 @@ public final class AskEdgesTest extends Checks {
         for (int i = 0; i < 16; i++) {
             int[] rows = new int[48];
             rows[3 * i] = 31;
-            due(22, "row " + i + " is none", meet(busy2(), rows), NONE);
+            due(22, "row " + i + " is none", meet(busyWithoutATape(), rows), NONE);
         }
     }
 
-    private static BlindColours busy2() {
+    private static BlindColours busyWithoutATape() {
         BlindColours x = busy();
         x.end(0);
         return x;
